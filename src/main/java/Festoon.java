@@ -54,10 +54,10 @@ public final class Festoon {
 
     public int hang(int lantern, int raft, int slot)
             throws IndexOutOfBoundsException, IllegalArgumentException, IllegalStateException {
-        Lantern hung = lanternAt(lantern);
-        Raft bearer = raftAt(raft);
-        if (hung == null || bearer == null || !within(slot, 0, SLOTS - 1)) {
-            throw new IndexOutOfBoundsException("no such lantern, float or slot");
+        Lantern hung = lanternNumbered(lantern);
+        Raft bearer = raftNumbered(raft);
+        if (!within(slot, 0, SLOTS - 1)) {
+            throw new IndexOutOfBoundsException("no such slot");
         }
         if (bearer.lanternIn(slot) != null) {
             throw new IllegalArgumentException("the slot has a lantern");
@@ -73,10 +73,7 @@ public final class Festoon {
     }
 
     public int takeDown(int lantern) throws IndexOutOfBoundsException, IllegalStateException {
-        Lantern taken = lanternAt(lantern);
-        if (taken == null) {
-            throw new IndexOutOfBoundsException("no such lantern");
-        }
+        Lantern taken = lanternNumbered(lantern);
         Raft bearer = taken.raft;
         if (bearer == null) {
             throw new IllegalStateException("the lantern hangs on no float");
@@ -87,10 +84,7 @@ public final class Festoon {
     }
 
     public int light(int lantern) throws IndexOutOfBoundsException, IllegalStateException {
-        Lantern lit = lanternAt(lantern);
-        if (lit == null) {
-            throw new IndexOutOfBoundsException("no such lantern");
-        }
+        Lantern lit = lanternNumbered(lantern);
         if (lit.state != DARK || lit.place() == NONE || isCrowded(lit, MOST_LANTERNS)) {
             throw new IllegalStateException("the lantern cannot be lit");
         }
@@ -99,10 +93,7 @@ public final class Festoon {
     }
 
     public int putOut(int lantern) throws IndexOutOfBoundsException, IllegalStateException {
-        Lantern out = lanternAt(lantern);
-        if (out == null) {
-            throw new IndexOutOfBoundsException("no such lantern");
-        }
+        Lantern out = lanternNumbered(lantern);
         if (out.state != LIT) {
             throw new IllegalStateException("the lantern is not lit");
         }
@@ -125,10 +116,7 @@ public final class Festoon {
     }
 
     public int launch(int raft) throws IndexOutOfBoundsException, IllegalStateException {
-        Raft next = raftAt(raft);
-        if (next == null) {
-            throw new IndexOutOfBoundsException("no such float");
-        }
+        Raft next = raftNumbered(raft);
         if (next.sort != ASHORE || !hasRoomToLaunch() || launches >= launched.length) {
             throw new IllegalStateException("the float is not ashore, or the last is too near");
         }
@@ -182,34 +170,22 @@ public final class Festoon {
     }
 
     public int stateOf(int lantern) throws IndexOutOfBoundsException {
-        Lantern asked = lanternAt(lantern);
-        if (asked == null) {
-            throw new IndexOutOfBoundsException("no such lantern");
-        }
+        Lantern asked = lanternNumbered(lantern);
         return asked.state;
     }
 
     public int left(int lantern) throws IndexOutOfBoundsException {
-        Lantern asked = lanternAt(lantern);
-        if (asked == null) {
-            throw new IndexOutOfBoundsException("no such lantern");
-        }
+        Lantern asked = lanternNumbered(lantern);
         return asked.left;
     }
 
     public int placeOf(int lantern) throws IndexOutOfBoundsException {
-        Lantern asked = lanternAt(lantern);
-        if (asked == null) {
-            throw new IndexOutOfBoundsException("no such lantern");
-        }
+        Lantern asked = lanternNumbered(lantern);
         return asked.place();
     }
 
     public int nearest(int lantern) throws IndexOutOfBoundsException {
-        Lantern asked = lanternAt(lantern);
-        if (asked == null) {
-            throw new IndexOutOfBoundsException("no such lantern");
-        }
+        Lantern asked = lanternNumbered(lantern);
         Raft own = asked.raft;
         if (own == null || own.sort != RIVER) {
             return NONE;
@@ -221,10 +197,7 @@ public final class Festoon {
     }
 
     public int nearestOfAll(int lantern) throws IndexOutOfBoundsException {
-        Lantern asked = lanternAt(lantern);
-        if (asked == null) {
-            throw new IndexOutOfBoundsException("no such lantern");
-        }
+        Lantern asked = lanternNumbered(lantern);
         int best = NONE;
         if (asked.place() != NONE) {
             for (Lantern other : lanterns) {
@@ -247,35 +220,23 @@ public final class Festoon {
     // ---- what is asked: floats
 
     public int sortOf(int raft) throws IndexOutOfBoundsException {
-        Raft asked = raftAt(raft);
-        if (asked == null) {
-            throw new IndexOutOfBoundsException("no such float");
-        }
+        Raft asked = raftNumbered(raft);
         return asked.sort;
     }
 
     public int front(int raft) throws IndexOutOfBoundsException {
-        Raft asked = raftAt(raft);
-        if (asked == null) {
-            throw new IndexOutOfBoundsException("no such float");
-        }
+        Raft asked = raftNumbered(raft);
         return asked.sort == RIVER ? asked.front : NONE;
     }
 
     public int load(int raft) throws IndexOutOfBoundsException {
-        Raft asked = raftAt(raft);
-        if (asked == null) {
-            throw new IndexOutOfBoundsException("no such float");
-        }
+        Raft asked = raftNumbered(raft);
         return asked.weight();
     }
 
     public int likeness(int raft, int figure)
             throws IndexOutOfBoundsException, IllegalArgumentException {
-        Raft asked = raftAt(raft);
-        if (asked == null) {
-            throw new IndexOutOfBoundsException("no such float");
-        }
+        Raft asked = raftNumbered(raft);
         if (!within(figure, 0, ALL_SLOTS)) {
             throw new IllegalArgumentException("figure is out of range");
         }
@@ -304,14 +265,20 @@ public final class Festoon {
         return value >= least && value <= most;
     }
 
-    /** The lantern with this number, or null if there is no such lantern. */
-    private Lantern lanternAt(int number) {
-        return within(number, 0, lanterns.length - 1) ? lanterns[number] : null;
+    private Lantern lanternNumbered(int number) {
+        Lantern found = within(number, 0, lanterns.length - 1) ? lanterns[number] : null;
+        if (found == null) {
+            throw new IndexOutOfBoundsException("no such lantern");
+        }
+        return found;
     }
 
-    /** The float with this number, or null if there is no such float. */
-    private Raft raftAt(int number) {
-        return within(number, 0, rafts.length - 1) ? rafts[number] : null;
+    private Raft raftNumbered(int number) {
+        Raft found = within(number, 0, rafts.length - 1) ? rafts[number] : null;
+        if (found == null) {
+            throw new IndexOutOfBoundsException("no such float");
+        }
+        return found;
     }
 
     private int litLanterns() {

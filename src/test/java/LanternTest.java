@@ -43,6 +43,8 @@ public final class LanternTest {
         Due.throwing("the 25th lantern", Due.STATE, () -> x.make(4, 0, 1));
         refuseMakes(x, bad);
         Due.is("lanterns when full", x.lanterns(), 24);
+        Due.is("the last one is there", x.left(23), 80);
+        Due.throwing("there is no 24", Due.INDEX, () -> x.left(24));
     }
 
     private static void refuseMakes(Festoon x, int[][] bad) {
@@ -65,6 +67,8 @@ public final class LanternTest {
         x.launch(0);
         Due.is("hang on a float on the river", x.hang(2, 0, 4), 1010);
         Due.is("hang on the other float", x.hang(3, 1, 4), 230);
+        Due.throwing("slot 0 is taken", Due.ARGUMENT, () -> x.hang(3, 0, 0));
+        Due.throwing("slot 9 is taken", Due.ARGUMENT, () -> x.hang(3, 0, 9));
         Due.is("a hung lantern is dark", x.stateOf(2), Festoon.DARK);
     }
 

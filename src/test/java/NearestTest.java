@@ -133,6 +133,8 @@ public final class NearestTest {
         bothAre("9 beside, 2 behind", x, 3, 2);
         x.putOut(0);
         bothAre("9 beside, 11 behind", x, 1, 9);
+        x.light(1);
+        bothAre("9 beside is lit, 2 behind", x, 3, 2);
     }
 
     private static void afterTheFirstIsGone() {

@@ -25,6 +25,8 @@ public final class RaftTest {
         }
         Due.throwing("the 9th float", Due.STATE, () -> x.build(9, 9999));
         refuseBuilds(x, bad);
+        Due.is("the last one is there", x.sortOf(7), Festoon.ASHORE);
+        Due.throwing("there is no 8", Due.INDEX, () -> x.sortOf(8));
         x.make(4, 0, 1);
         Due.throwing("float 0 bears 100", Due.STATE, () -> x.hang(0, 0, 0));
     }
