@@ -332,7 +332,7 @@ public final class Festoon {
         }
     }
 
-    /** Its own step after all have moved: a float that leaves still holds back the one behind. */
+    /** After all have moved, as the document orders: one that leaves still holds back the next. */
     private void letRaftsGo() {
         for (Raft raft : launched) {
             if (raft != null && raft.sort == RIVER && raft.front >= RIVER_END) {

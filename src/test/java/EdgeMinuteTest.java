@@ -10,6 +10,10 @@ public final class EdgeMinuteTest {
         neverGoesBack();
         justBefore500();
         at500AndBeyond();
+        allMoveBeforeOneIsGone();
+        goneAtAnyGapAfterAllMoved();
+        goneBeforeTheMinuteOfTheNext();
+        goneBeforeTheGust();
         goneLanternsBecomeDark();
         goneBurntOnesStaySo();
         severalGoneInOneCall();
@@ -154,6 +158,84 @@ public final class EdgeMinuteTest {
             x.pass(60);
             Due.is("it stays gone", x.sortOf(0), Festoon.GONE);
         }
+    }
+
+    /**
+     * "the floats on the river move, in their order", and the sentence after it: "A float whose
+     * front is at 500 or beyond is gone". So the one that leaves has moved and held the others back.
+     */
+    private static void allMoveBeforeOneIsGone() {
+        Festoon x = Scene.oneFloat(1);
+        x.build(9, 9999);
+        x.build(9, 9999);
+        x.pass(60);
+        x.launch(1);
+        x.pass(60);
+        x.launch(2);
+        Scene.passLong(x, 370);
+        Due.is("the first", x.front(0), 499);
+        Due.is("the second", x.front(1), 488);
+        Due.is("the third", x.front(2), 477);
+        x.pass(1);
+        Due.is("the first is gone", x.sortOf(0), Festoon.GONE);
+        Due.is("the second behind its rear at 491", x.front(1), 489);
+        Due.is("the third behind the second", x.front(2), 478);
+        x.pass(1);
+        Due.is("none ahead", x.front(1), 498);
+        Due.is("behind the second", x.front(2), 487);
+        x.pass(1);
+        Due.is("the second is gone at 507", x.sortOf(1), Festoon.GONE);
+        Due.is("the third on by its speed", x.front(2), 496);
+        x.pass(1);
+        Due.is("the third is gone", x.sortOf(2), Festoon.GONE);
+    }
+
+    /** The gap that stands in the minute in which the one ahead leaves: at 500, its rear at 491. */
+    private static void goneAtAnyGapAfterAllMoved() {
+        for (int gap = 1; gap <= 20; gap++) {
+            Festoon x = Scene.oneFloat(1);
+            x.build(9, 9999);
+            x.setRules(20, 0);
+            x.pass(60);
+            x.launch(1);
+            Scene.passLong(x, 430);
+            Due.is("20 behind 490", x.front(1), 470);
+            x.setRules(gap, 0);
+            x.pass(1);
+            Due.is("the first is gone", x.front(0), Festoon.NONE);
+            Due.is("by 9, or as far as gap " + gap, x.front(1), Math.min(479, 491 - gap));
+            x.pass(1);
+            Due.is("by 9 then, gap " + gap, x.front(1), Math.min(479, 491 - gap) + 9);
+        }
+    }
+
+    /** One that is gone is not on the river: it is not in the way, and a launch needs no room behind. */
+    private static void goneBeforeTheMinuteOfTheNext() {
+        Festoon x = Scene.oneFloat(9);
+        x.build(1, 9999);
+        x.pass(54);
+        x.setRules(20, 0);
+        Due.is("behind one at 495", x.launch(1), 2);
+        x.pass(1);
+        Due.is("gone", x.sortOf(0), Festoon.GONE);
+        Due.is("the other one goes on", x.front(1), 10);
+        x.pass(60);
+        Due.is("and on", x.front(1), 70);
+    }
+
+    /** "Then the gust of this minute": what the river's end made dark was not blown out. */
+    private static void goneBeforeTheGust() {
+        Festoon x = Scene.oneFloat(9);
+        x.build(9, 9999);
+        x.pass(30);
+        x.launch(1);
+        x.pass(24);
+        Scene.lightNew(x, 0, 0, 1);
+        Scene.lightNew(x, 1, 0, 1);
+        x.setGust(55, 9);
+        Due.is("one gone, one blown out", x.pass(1), 2);
+        Due.is("gone", x.sortOf(0), Festoon.GONE);
+        Due.is("the gust took one", x.blownOut(), 1);
     }
 
     /** "and its lanterns become dark" */
